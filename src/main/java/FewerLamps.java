@@ -761,7 +761,7 @@ public final class FewerLamps {
                 if (at == anchor) {
                     return true;
                 }
-                // An anchor ever later comes to lie in the round, and rounds are short: no need to go 512 bells.
+                // An anchor set ever later comes to lie in the round: most rounds are short, so 512 bells are seldom needed.
                 if (b == anchorAgain) {
                     anchor = at;
                     anchorAgain = 2 * b;
