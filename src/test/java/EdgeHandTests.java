@@ -16,6 +16,8 @@ public final class EdgeHandTests {
         litNoneTurned();
         litThreeNotFour();
         litHowManySets();
+        litFewestAreNotTheFirst();
+        litByOneTurnedOff();
         litThoughThreeWereTurned();
         litNone();
         whoBellsFrom0To60();
@@ -47,6 +49,7 @@ public final class EdgeHandTests {
         flickersOfSeveralTheLeast();
         flickersNoLamps();
         asksChangeNothing();
+        asksTellNothingToTheNext();
         EDGES.end();
     }
 
@@ -148,6 +151,26 @@ public final class EdgeHandTests {
         due("the least", x.lit(1, 1, 2), 25);
         due("from bell 0 on, sets", x.lit(1, 0, 1), 15);
         due("with two of them: fewer sets", x.lit(1 + 8, 1, 1), 10 + 5);
+    }
+
+    /** Lamps 0 and 1, each with a tie of 2 and 3: both by hand, or 2 alone, which is a greater number but a smaller set. */
+    private static void litFewestAreNotTheFirst() {
+        of("17", "of the fewest, whichever set is the least number");
+        FewerLamps x = Edges.told("l0 0;l0 0;l3 1;l3 0;s0 2;s0 3;s1 2;s1 3;");
+        due("in a set", x.lit(3, 1, 0), 1);
+        due("sets", x.lit(3, 1, 1), 1);
+        due("the least", x.lit(3, 1, 2), 4);
+        due("from bell 0 on", x.lit(3, 0, 0), 2);
+        due("by both", x.lit(3, 0, 2), 3);
+    }
+
+    private static void litByOneTurnedOff() {
+        of("17", "TURNED: not, if it was ON");
+        FewerLamps x = Edges.told("l0 0;l3 1;s0 1;");
+        due("in a set", x.lit(1, 1, 0), 1);
+        due("sets", x.lit(1, 1, 1), 1);
+        due("the lit one", x.lit(1, 1, 2), 2);
+        due("from bell 0 on: both", x.lit(1, 0, 2), 3);
     }
 
     private static void litThoughThreeWereTurned() {
@@ -300,6 +323,16 @@ public final class EdgeHandTests {
         for (int l = 0; l < 9; l++) {
             due("a street a bell", x.thief(0, l), l);
         }
+        // No town is known in which he needs more: he waits at lamp 8, which is dark for ever, for a way that opens seldom.
+        FewerLamps y = Edges.told("l0 0;l0 1;l2 1;l1 0;l0 1;l1 1;l1 0;l0 0;l3 0;"
+            + "s7 6;s4 1;s2 6;s0 3;s4 2;s1 7;s1 5;s4 6;s7 4;s0 2;s0 5;s3 8;");
+        y.fog(10, 1);
+        y.fog(11, 1);
+        for (int b = 0; b <= 77; b++) {
+            due("behind bell " + b, y.thief(8, 7), 88 - b);
+            y.bell();
+        }
+        due("just missed", y.thief(8, 7), 88);
     }
 
     // ---- promise 20
@@ -468,5 +501,23 @@ public final class EdgeHandTests {
         EDGES.asked("mist(0)", Edges::busy, y -> y.mist(0), Edges.busy().mist(0));
         EDGES.asked("flickers(-1, 60)", Edges::busy, y -> y.flickers(-1, 60), Edges.busy().flickers(-1, 60));
         EDGES.asked("flickers(8, 60)", Edges::busy, y -> y.flickers(8, 60), Edges.busy().flickers(8, 60));
+    }
+
+    /** What is answered hangs on NOW alone, not on what was asked ahead, though FOG is then as it was only thought of. */
+    private static void asksTellNothingToTheNext() {
+        of("20, 21", "from NOW on, FOG as it is");
+        for (int s = 0; s < 2; s++) {
+            String text = "l0 0;l0 0;l3 0;l3 0;s0 1;s0 2;";
+            FewerLamps x = Edges.told(text);
+            FewerLamps y = Edges.told(text);
+            x.mist(0);
+            x.still(0);
+            x.mist(3);
+            due("fog", x.fog(s, 1), y.fog(s, 1));
+            due("still(0) behind mist", x.still(0), y.still(0));
+            due("still(1) behind mist", x.still(1), y.still(1));
+            due("mist behind still", x.mist(x.after(1)), y.mist(y.after(1)));
+            due("bell()", x.bell(), y.bell());
+        }
     }
 }

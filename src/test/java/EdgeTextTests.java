@@ -40,6 +40,7 @@ public final class EdgeTextTests {
         faultChangesNothing();
         faultyTextMayGoOn();
         readAnew();
+        readAnewBellsOfTheNew();
         EDGES.end();
     }
 
@@ -378,6 +379,11 @@ public final class EdgeTextTests {
         fault("l0 0;s0;", 7);
         fault("l0 0;l0 0;s0 1 1;", 15);
         fault("l0 0;l0 0;s0 1s", 14);
+        fault("l ab 0;", 2);
+        fault("l0 ab;", 3);
+        fault("l0 0;l0 0;s ab 0;", 12);
+        fault("l0 0;l0 0;s0 ab;", 13);
+        fault("l0 0ab", 4);
     }
 
     private static void numbersAbove99() {
@@ -473,5 +479,21 @@ public final class EdgeTextTests {
         due("a street lost is none", x.lamp(0, 2), 1);
         due("keep(1)", x.keep(1), 0);
         due("just that image", x.back(0), STATE);
+    }
+
+    /** What was asked of a town tells nothing of the next one, though it stands as the first did. */
+    private static void readAnewBellsOfTheNew() {
+        of("4", "THE TEXT tells all");
+        FewerLamps x = Edges.told("l0 0;l3 0;l3 1;s0 1;");
+        due("a bell", x.after(1), 5);
+        due("one pair stills", x.still(1), 0);
+        due("in mist", x.mist(4), 1);
+        Check.write(x, "l1 0;l2 0;l3 1;s0 2;");
+        due("town()", x.town(), 4);
+        due("another bell", x.after(1), 7);
+        due("no pair stills", x.still(0), NONE);
+        due("in another mist", x.mist(6), 1);
+        due("not in that one", x.mist(4), 0);
+        due("bell()", x.bell(), 7);
     }
 }
