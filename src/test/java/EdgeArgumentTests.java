@@ -3,8 +3,8 @@ import java.util.Arrays;
 import java.util.List;
 
 /**
- * Each call with each of the numbers at an edge of the document, in all combinations and in several states; the answers are held
- * against SlowTown, and no call may throw.
+ * Each call with each of the numbers at an edge of the document, beside one another and in several states; the answers are
+ * held against SlowTown, and no call may throw.
  */
 public final class EdgeArgumentTests {
     private static final Check CHECK = new Check();

@@ -519,5 +519,11 @@ public final class EdgeHandTests {
             due("mist behind still", x.mist(x.after(1)), y.mist(y.after(1)));
             due("bell()", x.bell(), y.bell());
         }
+        // Lamp 0 is alone in the fog, but goes on at the first bell by the new street.
+        FewerLamps z = Edges.told("l1 0;l3 0;l3 1;s0 1;");
+        due("mist(4)", z.mist(4), 1);
+        due("fog(0, 1)", z.fog(0, 1), 1);
+        due("still(1)", z.still(1), 1);
+        due("still(0)", z.still(0), 2);
     }
 }

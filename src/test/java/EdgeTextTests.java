@@ -490,10 +490,10 @@ public final class EdgeTextTests {
         due("in mist", x.mist(4), 1);
         Check.write(x, "l1 0;l2 0;l3 1;s0 2;");
         due("town()", x.town(), 4);
-        due("another bell", x.after(1), 7);
-        due("no pair stills", x.still(0), NONE);
         due("in another mist", x.mist(6), 1);
         due("not in that one", x.mist(4), 0);
+        due("another bell", x.after(1), 7);
+        due("no pair stills", x.still(0), NONE);
         due("bell()", x.bell(), 7);
     }
 }
