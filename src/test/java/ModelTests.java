@@ -28,7 +28,7 @@ public final class ModelTests {
 
     private void run() {
         readTown();
-        while (calls < 500) {
+        while (calls < 512) {
             String name = NAMES[lot.nextInt(NAMES.length)];
             if (name.equals("type") || name.equals("town") || name.equals("clear")) {
                 // Texts are seldom, so that towns live long enough.
